@@ -55,9 +55,7 @@ public final class HouseLog {
         if (!isKind(kind)) {
             throw new IllegalArgumentException("no such kind");
         }
-        if (down) {
-            throw new IllegalStateException("the log is down");
-        }
+        refuseIfDown();
         if (roomFor(release) == 0) {
             return NONE;
         }
@@ -69,9 +67,7 @@ public final class HouseLog {
     }
 
     public int sync() throws IllegalStateException {
-        if (down) {
-            throw new IllegalStateException("the log is down");
-        }
+        refuseIfDown();
         for (int row = acknowledged; row < rows; row++) {
             if (!writeWhole(copy0, row) || !writeWhole(copy1, row)) {
                 goDown();
@@ -122,9 +118,7 @@ public final class HouseLog {
     }
 
     public int at(int row, int i) throws IllegalStateException, NoSuchElementException, ArrayIndexOutOfBoundsException {
-        if (down) {
-            throw new IllegalStateException("the log is down");
-        }
+        refuseIfDown();
         if (!isRow(row)) {
             throw new NoSuchElementException("no such row");
         }
@@ -135,9 +129,7 @@ public final class HouseLog {
     }
 
     public int verify() throws IllegalStateException {
-        if (down) {
-            throw new IllegalStateException("the log is down");
-        }
+        refuseIfDown();
         for (int sector = 0; sector < acknowledged; sector++) {
             if (!copy0.isRight(sector)) {
                 return 2 * sector + 1;
@@ -150,9 +142,7 @@ public final class HouseLog {
     }
 
     public int extract(int from, int to) throws IllegalStateException, NoSuchElementException {
-        if (down) {
-            throw new IllegalStateException("the log is down");
-        }
+        refuseIfDown();
         if (!isRow(from) || !isRow(to) || from > to) {
             throw new NoSuchElementException("no such rows");
         }
@@ -164,9 +154,7 @@ public final class HouseLog {
     }
 
     public int look(int row, int what) throws IllegalStateException, NoSuchElementException {
-        if (down) {
-            throw new IllegalStateException("the log is down");
-        }
+        refuseIfDown();
         if (!isRow(row)) {
             throw new NoSuchElementException("no such row");
         }
@@ -202,6 +190,12 @@ public final class HouseLog {
                 return down ? 0 : roomFor(false);
             default:
                 return NONE;
+        }
+    }
+
+    private void refuseIfDown() {
+        if (down) {
+            throw new IllegalStateException("the log is down");
         }
     }
 
@@ -304,7 +298,8 @@ public final class HouseLog {
         int sumOn(int sum, int from, int until) {
             int s = sum;
             for (int place = from; place < until; place++) {
-                s = Integer.rotateLeft(s ^ get(place), SUM_TURN) * SUM_FACTOR;
+                int mixed = s ^ get(place);
+                s = (mixed << SUM_TURN | mixed >>> 32 - SUM_TURN) * SUM_FACTOR;
             }
             return s;
         }
