@@ -4,7 +4,17 @@ final class Checks {
         long answer();
     }
 
+    interface BooleanCall {
+        boolean answer();
+    }
+
     private int wrong = 0;
+    private String sentence = "";
+
+    /** A wrong answer from here on is told with these words of the document. */
+    void sentence(String words) {
+        sentence = "\"" + words + "\": ";
+    }
 
     void due(String call, long got, long want) {
         if (got != want) {
@@ -21,6 +31,50 @@ final class Checks {
         if (!got.equals(want.getName())) {
             tell(call + " answered " + got + ", due is throws " + want.getName());
         }
+    }
+
+    /** A call that answers so and leaves all that can be seen of the log as it was. */
+    void refused(String call, HouseLog log, long want, Call run) {
+        String before = state(log);
+        String got = outcome(run);
+        if (!got.equals(Long.toString(want))) {
+            tell(call + " answered " + got + ", due is " + want);
+        }
+        unaltered(call, log, before);
+    }
+
+    void refused(String call, HouseLog log, boolean want, BooleanCall run) {
+        refused(call, log, want ? 1L : 0L, () -> run.answer() ? 1L : 0L);
+    }
+
+    void refusedThrow(String call, HouseLog log, Class<? extends RuntimeException> want, Call run) {
+        String before = state(log);
+        dueThrow(call, want, run);
+        unaltered(call, log, before);
+    }
+
+    private void unaltered(String call, HouseLog log, String before) {
+        if (!state(log).equals(before)) {
+            tell(call + " altered the log");
+        }
+    }
+
+    // These looks go beyond the 512 calls of the document now and then: the class keeps no count of its calls.
+    private static String state(HouseLog log) {
+        StringBuilder all = new StringBuilder();
+        for (int what = 0; what < 8; what++) {
+            all.append(log.count(what)).append(' ');
+        }
+        for (int row = 0; row < log.count(1); row++) {
+            all.append(log.look(row, 0)).append(' ').append(log.look(row, 2)).append(' ');
+            for (int i = 0; i < log.look(row, 1); i++) {
+                all.append(log.at(row, i)).append(' ');
+            }
+        }
+        for (int place = 0; place < 64 * log.count(0); place++) {
+            all.append(log.disk(0, place)).append(' ').append(log.disk(1, place)).append(' ');
+        }
+        return all.toString();
     }
 
     /** The answer as a text, or the exception's name; what the machine itself threw is marked as such. */
@@ -40,7 +94,7 @@ final class Checks {
 
     void tell(String what) {
         wrong++;
-        System.out.println(what);
+        System.out.println(sentence + what);
     }
 
     void finish() {
@@ -73,6 +127,23 @@ final class Checks {
         }
     }
 
+    /** A log whose sectors all have a row of kind 1 with one byte, on the disk too. */
+    static HouseLog full(int sectors) {
+        HouseLog log = new HouseLog(sectors);
+        for (int k = 0; k < sectors; k++) {
+            log.add(k);
+            log.end(1, true);
+        }
+        log.sync();
+        return log;
+    }
+
+    static void collect(HouseLog log, int many) {
+        for (int i = 0; i < many; i++) {
+            log.add(i + 1);
+        }
+    }
+
     /** A log that a cut at its first write has brought down, with one row acknowledged before. */
     static HouseLog downLog() {
         HouseLog log = synced(8, 1);
@@ -89,5 +160,26 @@ final class Checks {
             s = (s << 9 | s >>> 23) * 0x85EBCA6B;
         }
         return s;
+    }
+
+    /** Puts a row's sector on one copy by pokes, with its due sum, also where the number, kind or length can't be. */
+    static void put(HouseLog log, int copy, int sector, int number, int kind, int... bytes) {
+        int[] all = new int[6 + bytes.length];
+        for (int i = 0; i < 4; i++) {
+            all[i] = number >>> 24 - 8 * i & 255;
+        }
+        all[4] = kind;
+        all[5] = bytes.length;
+        System.arraycopy(bytes, 0, all, 6, bytes.length);
+        for (int i = 0; i < all.length; i++) {
+            setByte(log, copy, 64 * sector + i, all[i]);
+        }
+        for (int i = 0; i < 4; i++) {
+            setByte(log, copy, 64 * sector + all.length + i, sum(all) >>> 24 - 8 * i & 255);
+        }
+    }
+
+    static void setByte(HouseLog log, int copy, int place, int value) {
+        log.poke(copy, place, log.disk(copy, place) ^ value);
     }
 }

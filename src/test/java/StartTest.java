@@ -50,17 +50,7 @@ public final class StartTest {
             CHECKS.due("the next row", log.end(1, false), sector);
         }
         CHECKS.due("start of an empty disk", new HouseLog(4).start(), 0);
-        CHECKS.due("start of a full disk", full(4).start(), 4);
-    }
-
-    private static HouseLog full(int sectors) {
-        HouseLog log = new HouseLog(sectors);
-        for (int k = 0; k < sectors; k++) {
-            log.add(k);
-            log.end(1, true);
-        }
-        log.sync();
-        return log;
+        CHECKS.due("start of a full disk", Checks.full(4).start(), 4);
     }
 
     // A sector with its due sum and yet a number, kind or length that can't be.
@@ -70,7 +60,7 @@ public final class StartTest {
         for (int[] h : heads) {
             for (int copy = 0; copy < 2; copy++) {
                 HouseLog log = new HouseLog(4);
-                put(log, copy, 0, h[0], h[1], new int[h[2]]);
+                Checks.put(log, copy, 0, h[0], h[1], new int[h[2]]);
                 String name = "number " + h[0] + ", kind " + h[1] + ", length " + h[2] + " on copy " + copy;
                 CHECKS.due("start with " + name, log.start(), h[3]);
                 CHECKS.due("mended with " + name, log.count(5), h[3]);
@@ -79,38 +69,18 @@ public final class StartTest {
         HouseLog long255 = new HouseLog(4);
         int[] head = {0, 0, 0, 0, 1, 255};
         for (int i = 0; i < head.length; i++) {
-            setByte(long255, 0, i, head[i]);
+            Checks.setByte(long255, 0, i, head[i]);
         }
         CHECKS.due("start with a length of 255", long255.start(), 0);
-        HouseLog last = full(4);
-        setByte(last, 0, 3 * 64 + 5, 255);
+        HouseLog last = Checks.full(4);
+        Checks.setByte(last, 0, 3 * 64 + 5, 255);
         CHECKS.due("verify of a length that leads behind the disk", last.verify(), 7);
-    }
-
-    private static void put(HouseLog log, int copy, int sector, int number, int kind, int[] bytes) {
-        int[] all = new int[6 + bytes.length];
-        for (int i = 0; i < 4; i++) {
-            all[i] = number >>> 24 - 8 * i & 255;
-        }
-        all[4] = kind;
-        all[5] = bytes.length;
-        System.arraycopy(bytes, 0, all, 6, bytes.length);
-        for (int i = 0; i < all.length; i++) {
-            setByte(log, copy, 64 * sector + i, all[i]);
-        }
-        for (int i = 0; i < 4; i++) {
-            setByte(log, copy, 64 * sector + all.length + i, Checks.sum(all) >>> 24 - 8 * i & 255);
-        }
-    }
-
-    private static void setByte(HouseLog log, int copy, int place, int value) {
-        log.poke(copy, place, log.disk(copy, place) ^ value);
     }
 
     private static void bothRightButUnlike() {
         HouseLog log = new HouseLog(4);
-        put(log, 0, 0, 0, 3, new int[] {1, 2});
-        put(log, 1, 0, 0, 4, new int[] {9});
+        Checks.put(log, 0, 0, 0, 3, new int[] {1, 2});
+        Checks.put(log, 1, 0, 0, 4, new int[] {9});
         CHECKS.due("start with unlike copies", log.start(), 1);
         CHECKS.due("nothing is mended", log.count(5), 0);
         CHECKS.due("the row is that of copy 0", log.look(0, 0), 3);
